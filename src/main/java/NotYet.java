@@ -1373,7 +1373,7 @@ public final class NotYet {
         private final int[] seats = new int[MOST_GUESTS];
         private final int[] most = new int[MOST_GUESTS];
         private final int[] gains = new int[1 << MOST_GUESTS];
-        private int[] held = new int[64];
+        private int[] held = new int[8];
         private int count;
         private int guests = 3;
         private int mensRow;

@@ -6,6 +6,7 @@ public final class FeastTest {
         feast();
         likes();
         ofSevenMany();
+        tenOfFour();
         pairing();
         mended();
         price();
@@ -80,6 +81,27 @@ public final class FeastTest {
             check.due("22 the first of the most", x.pairing(2, n - 1), n - 1);
             check.due("23", x.mended(), 0);
         }
+    }
+
+    /** Four men and four women can be paired in at most ten ways that hold, and here they are. */
+    private static void tenOfFour() {
+        NotYet x = new NotYet();
+        x.feast(4);
+        int[][] order = {{0, 1, 2, 3}, {1, 0, 3, 2}, {2, 3, 0, 1}, {3, 2, 1, 0}};
+        for (int k = 0; k < 4; k++) {
+            for (int rank = 0; rank < 4; rank++) {
+                x.likes(0, k, order[k][rank], 9 - rank);
+                x.likes(1, k, order[3 - k][rank], 9 - rank);
+            }
+        }
+        check.due("21 ten", x.holds(), 10);
+        for (int k = 0; k < 4; k++) {
+            check.due("22 the men's", x.pairing(0, k), k);
+            check.due("22 the women's", x.pairing(1, k), 3 - k);
+            check.due("22 the first", x.pairing(10, k), k);
+            check.due("22 the last", x.pairing(19, k), 3 - k);
+        }
+        check.due("22 no more", x.pairing(20, 0), -1);
     }
 
     private static void pairing() {

@@ -87,7 +87,7 @@ public final class ModelTest {
         for (int call = 0; call < 120; call++) {
             int kind = less(14);
             if (kind == 0) {
-                set(less(3), near(0, 12));
+                set(less(3), less(9) == 0 ? 60 : near(0, 12));
             } else if (kind == 1) {
                 worth(near(0, 1), near(0, 5), near(0, 5), near(-1, 999));
             } else if (kind == 2) {
@@ -101,7 +101,7 @@ public final class ModelTest {
             } else if (kind < 11) {
                 int side = near(0, 1);
                 int sort = near(0, 5);
-                int t = near(0, 12);
+                int t = less(4) == 0 ? less(62) : near(0, 12);
                 due("patience", fast.patience(side, sort, t), slow.patience(side, sort, t));
             } else {
                 int i = near(0, 5);

@@ -11,7 +11,9 @@ public final class SortsTest {
         set();
         classes();
         classesAreExact();
+        sixClasses();
         patience();
+        sixtyWeeks();
         pairs();
         check.close();
     }
@@ -185,6 +187,41 @@ public final class SortsTest {
         x.look(1, 0, 100, 20);
         x.look(1, 1, 0, 0);
         check.due("6 alike: the least", x.classes(0, 2), 0);
+    }
+
+    private static void sixClasses() {
+        NotYet x = new NotYet();
+        x.set(0, 0);
+        x.set(1, 1);
+        for (int side = 0; side < 2; side++) {
+            x.sorts(side, 6);
+            int look = 999;
+            for (int sort = 0; sort < 6; sort++) {
+                x.look(side, sort, look, 100);
+                look /= 3;
+            }
+        }
+        check.due("6 six", x.classes(0, 0), 6);
+        for (int k = 0; k < 6; k++) {
+            check.due("6 last of 0", x.classes(k, 1), k);
+            check.due("6 last of 1", x.classes(k, 2), k);
+            check.due("6 below", x.classes(k, 6), 101);
+        }
+        check.due("6 no seventh", x.classes(6, 1), NO_SUCH);
+        check.due("6 all are in one", x.classes(0, 7), 0);
+    }
+
+    /** One who is met each week with a chance of a half of worth 900 waits by the mean of it and the wait, less 1. */
+    private static void sixtyWeeks() {
+        NotYet x = new NotYet();
+        x.set(2, 60);
+        x.look(1, 0, 900, 500);
+        int wait = 0;
+        for (int t = 60; t >= 0; t--) {
+            check.due("7 behind " + t, x.patience(0, 0, t), wait);
+            wait = (500 * 900 + 500 * wait) / 1000 - 1;
+        }
+        check.due("7", x.patience(0, 0, 61), -1);
     }
 
     private static void patience() {

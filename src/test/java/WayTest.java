@@ -95,6 +95,14 @@ public final class WayTest {
         faulty("take5 5;", 1, 6);
         faulty("Take 5;", 1, 0);
         faulty("takeX 5;", 1, 0);
+        faulty("takeA 5;", 1, 0);
+        faulty("takeZ 5;", 1, 0);
+        faulty("take@ 5;", 1, 4);
+        faulty("take[ 5;", 1, 4);
+        faulty("take` 5;", 1, 4);
+        faulty("take{ 5;", 1, 4);
+        faulty(" ".repeat(399) + "x", 1, 399);
+        fine("take 1" + "+1".repeat(196) + " ;", 1);
         faulty("take 12345;", 1, 5);
         faulty("take 00000;", 1, 5);
         faulty("take (5);", 1, 5);
@@ -182,6 +190,7 @@ public final class WayTest {
 
     private static void values() {
         value("take 2 + 3 * 4;", 14);
+        value("take 1" + "+1".repeat(196) + " ;", 197);
         value("take 2 * 3 + 4;", 10);
         value("take 10 - 3 - 4;", 3);
         value("take 10 - 3 + 4;", 11);
