@@ -97,6 +97,7 @@ public final class WayTest {
         faulty("takeX 5;", 1, 0);
         faulty("takeA 5;", 1, 0);
         faulty("takeZ 5;", 1, 0);
+        faulty("takez 5;", 1, 0);
         faulty("take@ 5;", 1, 4);
         faulty("take[ 5;", 1, 4);
         faulty("take` 5;", 1, 4);
