@@ -4,13 +4,19 @@ final class Check {
 
     private int wrong;
     private int asked;
+    private String sentence = "";
+
+    /** The sentence of the document by which the answers asked from here on are due. */
+    void by(String told) {
+        sentence = told + " | ";
+    }
 
     void due(String call, int got, int want) {
         asked++;
         if (got != want) {
             wrong++;
             if (wrong <= PRINTED) {
-                System.out.println(call + " answered " + got + ", due is " + want);
+                System.out.println(sentence + call + " answered " + got + ", due is " + want);
             }
         }
     }
