@@ -596,10 +596,6 @@ public final class NotYet {
             return i >= 0 && i < count ? kinds[i] : WRONG;
         }
 
-        int place(int i) {
-            return i >= 0 && i < count ? places[i] : size;
-        }
-
         int number(int i) {
             return i >= 0 && i < count ? numbers[i] : 0;
         }

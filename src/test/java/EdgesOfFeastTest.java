@@ -109,8 +109,15 @@ public final class EdgesOfFeastTest {
             check.due("0", x.pairing(2, -1), 0);
             check.due("0", x.pairing(0, -1), 0);
             check.due("alike: the least", x.pairing(0, n - 1), n - 1);
-            x.likes(0, n - 1, 0, 99);
-            x.feast(1);
+            x.likes(0, n - 1, n - 1, 99);
+            check.due("one couple", x.pairing(2, -1), 99);
+            for (int fewer = n; fewer >= 1; fewer--) {
+                x.feast(fewer);
+                check.due("fewer: 0", x.pairing(2, -1), 0);
+                check.due("fewer: 0", x.mended(), 0);
+                x.likes(0, fewer - 1, fewer - 1, 9);
+                check.due("fewer: 9", x.pairing(2, -1), 9);
+            }
             check.due("one", x.holds(), 1);
             x.feast(7);
             check.due("those who went and came", x.pairing(2, -1), 0);
@@ -253,6 +260,13 @@ public final class EdgesOfFeastTest {
                 check.due("THE WOMEN'S of " + n, x.pairing(1, k), (k + n - 1) % n);
             }
         }
+        // MEN like the turned one, WOMEN the straight one: THE MEN'S is the last in order.
+        NotYet turned = feastOf(new int[][] {{8, 9}, {9, 8}}, new int[][] {{9, 8}, {8, 9}});
+        check.due("two hold", turned.holds(), 2);
+        check.due("THE MEN'S is the last", turned.pairing(0, 0), 1);
+        check.due("THE MEN'S is the last", turned.pairing(0, 1), 0);
+        check.due("THE WOMEN'S is the first", turned.pairing(1, 0), 0);
+        check.due("THE WOMEN'S is the first", turned.pairing(1, 1), 1);
         NotYet one = feastOf(new int[][] {{9, 8}, {8, 9}}, new int[][] {{9, 8}, {8, 9}});
         for (int k = 0; k < 2; k++) {
             check.due("one alone is both", one.pairing(0, k), one.pairing(1, k));
@@ -439,6 +453,11 @@ public final class EdgesOfFeastTest {
         check.due("99", x.mended(), 99);
         x.likes(1, 0, 1, 1);
         check.due("now she likes him", x.mended(), 0);
+        x.likes(1, 0, 1, 0);
+        check.due("no more", x.mended(), 99);
+        x.likes(1, 1, 1, 0);
+        check.due("what holds is less", x.pairing(10, -1), 1);
+        check.due("197", x.mended(), 197);
     }
 
     private static void priceEdges() {
@@ -626,6 +645,8 @@ public final class EdgesOfFeastTest {
         check.due("nor is it told then", x.sums(0, 0), 0);
         x.likes(0, 1, 0, 8);
         check.due("with new LIKES", x.sums(0, 2), 2);
+        x.likes(0, 1, 0, 6);
+        check.due("with lesser LIKES", x.sums(0, 2), 0);
     }
 
     private static void sumsRefused() {

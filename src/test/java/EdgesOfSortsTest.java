@@ -12,6 +12,7 @@ public final class EdgesOfSortsTest {
         sortsBegin();
         sortsUntell();
         sortsLeaveTheOtherSide();
+        sortsAreSeenAtOnce();
         sortsWithPeople();
         looks();
         oftens();
@@ -33,12 +34,16 @@ public final class EdgesOfSortsTest {
         classesByLooksAlone();
         classesAsTheyAre();
         classesGreatNumbers();
+        classesFull();
+        classesEachFromItsOwn();
         classesNoneSuch();
         lastWeek();
         behindTheLastWeek();
         waitAtLeastNought();
         waitRestOfThousand();
         waitGreatest();
+        waitOfSixtyWeeks();
+        waitOfAllSorts();
         takesAtLeast();
         patienceRefused();
         pairsRefused();
@@ -198,6 +203,20 @@ public final class EdgesOfSortsTest {
         check.due("often of SIDE 1 stays", x.classes(0, 4), 1099);
         check.due("LOOK of SIDE 1 stays", x.classes(0, 3), 29970);
         check.due("SORTS of SIDE 1 stay", x.look(1, 3, 0, 0), false);
+    }
+
+    private static void sortsAreSeenAtOnce() {
+        check.by("2: How many SORTS a SIDE has: what was asked before is not answered any more");
+        for (int side = 0; side < 2; side++) {
+            NotYet x = plain();
+            x.look(0, 0, 500, 500);
+            x.look(1, 0, 500, 500);
+            check.due("told", x.patience(1 - side, 0, 0), 250);
+            check.due("told", x.classes(0, 5 - 2 * side), 250000);
+            x.sorts(side, 1);
+            check.due("0", x.patience(1 - side, 0, 0), 0);
+            check.due("0", x.classes(0, 5 - 2 * side), 0);
+        }
     }
 
     private static void sortsWithPeople() {
@@ -595,6 +614,57 @@ public final class EdgesOfSortsTest {
         }
     }
 
+    private static void classesFull() {
+        check.by("6: Of CLASS k (from 0): six SORTS a SIDE, six CLASSES");
+        NotYet x = plain();
+        x.sorts(0, 6);
+        x.sorts(1, 6);
+        for (int sort = 0; sort < 6; sort++) {
+            x.look(0, sort, 600 - sort, 0);
+            x.look(1, sort, 60 - sort, 0);
+        }
+        check.due("six", x.classes(0, 0), 6);
+        for (int k = 0; k < 6; k++) {
+            check.due("last of SIDE 0", x.classes(k, 1), k);
+            check.due("last of SIDE 1", x.classes(k, 2), k);
+            check.due("above", x.classes(k, 3), 0);
+            check.due("below", x.classes(k, 6), 100);
+        }
+        check.due("no seventh", x.classes(6, 1), NO_SUCH);
+        check.due("none left", x.classes(0, 7), 0);
+        check.due("none left", x.classes(0, 8), 0);
+    }
+
+    private static void classesEachFromItsOwn() {
+        check.by("1: the first SORT of each SIDE that is in no CLASS yet, a of SIDE 0, b of SIDE 1");
+        for (int side = 0; side < 2; side++) {
+            NotYet x = plain();
+            x.sorts(side, 6);
+            x.sorts(1 - side, 2);
+            for (int sort = 0; sort < 6; sort++) {
+                x.look(side, sort, 100 - sort, 100);
+            }
+            x.look(1 - side, 0, 900, 500);
+            x.look(1 - side, 1, 10, 500);
+            // All six are taken together by those who meet each of them alike, the others one by one.
+            check.due("one CLASS", x.classes(0, 0), 1);
+            check.due("six of a SIDE", x.classes(0, 1 + side), 5);
+            check.due("one of the other", x.classes(0, 2 - side), 0);
+            check.due("left", x.classes(0, 8 - side), 1);
+            for (int sort = 3; sort < 6; sort++) {
+                x.look(side, sort, 20, 100);
+            }
+            check.due("two CLASSES", x.classes(0, 0), 2);
+            check.due("three of a SIDE", x.classes(0, 1 + side), 2);
+            check.due("then three more", x.classes(1, 1 + side), 5);
+            check.due("one of the other", x.classes(0, 2 - side), 0);
+            check.due("then one more", x.classes(1, 2 - side), 1);
+            check.due("above, from the fourth on", x.classes(1, 5 - 2 * side), 6000);
+            check.due("below, from the fourth on", x.classes(1, 6 - 2 * side), 400);
+            check.due("above, the second alone", x.classes(1, 3 + 2 * side), 5000);
+        }
+    }
+
     private static void classesNoneSuch() {
         check.by("6: NONE - 9999999 if there is none such, or another what; what 7, 8 k not asked");
         NotYet x = plain();
@@ -696,6 +766,50 @@ public final class EdgesOfSortsTest {
         check.due("both take", x.pairs(0, 1, 1, 0), 1);
     }
 
+    private static void waitOfSixtyWeeks() {
+        check.by("2: In week t (T, T - 1, .. 1): by 1000, less COST");
+        for (int side = 0; side < 2; side++) {
+            for (int often : new int[] {1, 333, 500, 999}) {
+                for (int cost : new int[] {0, 1, 99}) {
+                    NotYet x = plain();
+                    x.set(0, cost);
+                    x.set(2, 60);
+                    x.look(1 - side, 0, 999, often);
+                    int wait = 0;
+                    for (int t = 60; t >= 0; t--) {
+                        check.due("behind " + t, x.patience(side, 0, t), wait);
+                        wait = Math.max(0, (often * 999 + (1000 - often) * wait) / 1000 - cost);
+                    }
+                }
+            }
+        }
+    }
+
+    /** Each SORT is taken by one SORT alone, so that each has a WAIT of its own. */
+    private static void waitOfAllSorts() {
+        check.by("2: of all SORTS j of the other SIDE often times (WORTH in a PAIR, else WAIT behind t)");
+        NotYet x = plain();
+        x.set(2, 60);
+        x.sorts(0, 6);
+        x.sorts(1, 6);
+        for (int i = 0; i < 6; i++) {
+            x.look(0, i, 0, 100 + i);
+            x.look(1, i, 0, 110 + i);
+            x.worth(0, i, 5 - i, 500 + 10 * i);
+            x.worth(1, 5 - i, i, 700 + 10 * i);
+        }
+        x.patience(0, 0, 0);
+        for (int last : new int[] {1, 2, 60, 3}) {
+            x.set(2, last);
+            for (int i = 0; i < 6; i++) {
+                check.due("behind T", x.patience(0, i, last), 0);
+                check.due("behind T", x.patience(1, 5 - i, last), 0);
+                check.due("a week ahead", x.patience(0, i, last - 1), (115 - i) * (500 + 10 * i) / 1000);
+                check.due("a week ahead", x.patience(1, 5 - i, last - 1), (100 + i) * (700 + 10 * i) / 1000);
+            }
+        }
+    }
+
     private static void takesAtLeast() {
         check.by("2: each takes the other, if its WORTH is at least the WAIT of the one who takes; a PAIR if both do");
         for (int side = 0; side < 2; side++) {
@@ -706,6 +820,10 @@ public final class EdgesOfSortsTest {
             x.look(1 - side, 1, 300, 0);
             int i = side == 0 ? 0 : 1;
             int j = side == 0 ? 1 : 0;
+            check.due("as much", x.pairs(i, j, 1, 1 + side), 1);
+            x.look(1 - side, 1, 299, 0);
+            check.due("less, before WAIT is asked", x.pairs(i, j, 1, 1 + side), 0);
+            x.look(1 - side, 1, 300, 0);
             check.due("WAIT", x.patience(side, 0, 1), 300);
             check.due("as much", x.pairs(i, j, 1, 1 + side), 1);
             check.due("a PAIR", x.pairs(i, j, 1, 0), 1);

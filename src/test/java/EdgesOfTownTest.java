@@ -48,6 +48,7 @@ public final class EdgesOfTownTest {
         allOfASort();
         allRefused();
         townWhats();
+        lastOfManyCalls();
         check.close();
     }
 
@@ -659,6 +660,17 @@ public final class EdgesOfTownTest {
         x.set(5, 0);
         x.weeks(1);
         check.due("looks again with the new one too", x.one(2, 7), 1);
+        NotYet y = couple(0, 10, "take 10 when week < 3; take 5;", "");
+        y.weeks(3);
+        y.worth(0, 0, 0, 5);
+        check.due("they part, and 5 is taken", y.weeks(1), 1);
+        check.due("parted", y.town(6), 1);
+        y.worth(0, 0, 0, 4);
+        check.due("3 weeks old", y.weeks(2), 1);
+        check.due("the same two look again anew", y.weeks(1), 0);
+        check.due("parted", y.town(6), 2);
+        check.due("he parted twice", y.one(0, 7), 2);
+        check.due("she parted twice", y.one(1, 7), 2);
     }
 
     private static void waitedOfSingleOnes() {
@@ -783,5 +795,30 @@ public final class EdgesOfTownTest {
         for (int what : new int[] {Integer.MIN_VALUE, -1, 8, 9, Integer.MAX_VALUE}) {
             check.due("what " + what, x.town(what), -1);
         }
+    }
+
+    private static void lastOfManyCalls() {
+        check.by("An object is used for at most 512 calls after it has been made");
+        NotYet x = new NotYet();
+        int calls = 0;
+        for (int i = 0; i < 40; i++, calls++) {
+            x.come(i % 2, 0, 0);
+        }
+        for (int i = 0; i < 99; i++, calls++) {
+            check.due("week " + i, x.weeks(1), 20);
+        }
+        for (; calls < 504 - 3; calls += 3) {
+            x.feast(7);
+            x.likes(0, 6, 0, calls % 100);
+            check.due("one holds", x.holds(), 1);
+        }
+        for (; calls < 504; calls++) {
+            x.state(calls);
+        }
+        for (int what = 0; what < 7; what++, calls++) {
+            check.due("town " + what, x.town(what), new int[] {99, 40, 20, 20, 20, 0, 0}[what]);
+        }
+        check.due("calls", calls, 512 - 1);
+        check.due("the 512th", x.one(39, 2), 99);
     }
 }

@@ -39,6 +39,8 @@ public final class EdgesOfWaysTest {
         withoutALine();
         waitFromTheLastWeekOn();
         factsAtTheirEdges();
+        waitAsOneMeets();
+        joined();
         check.close();
     }
 
@@ -311,6 +313,22 @@ public final class EdgesOfWaysTest {
             faulty(head + "a 5;", 1, 0);
             faulty(head + "z 5;", 1, 0);
         }
+        for (char c = 'a'; c <= 'z'; c++) {
+            faulty("take" + c + " 5;", 1, 0);
+            faulty("take" + Character.toUpperCase(c) + " 5;", 1, 0);
+            faulty(Character.toUpperCase(c) + "take 5;", 1, 0);
+        }
+        String[] words = {"take 5 ;", "leave 5 ;", "take 5 when 1=1 ;", "take 5 when 1=1 or 1=1 ;", "take 5 when 1=1 and 1=1 ;",
+            "take 5 when not 1=1 ;", "take week ;", "take waited ;", "take sort ;", "take mine ;", "take best ;", "take told ;",
+            "take wait ;"};
+        for (String text : words) {
+            fine(text, 1);
+            for (int i = 0; i < text.length(); i++) {
+                if (Character.isLetter(text.charAt(i))) {
+                    faulty(text.substring(0, i) + 'x' + text.substring(i + 1), 1, text.lastIndexOf(' ', i) + 1);
+                }
+            }
+        }
         faulty("take 5 whenever 1=1;", 1, 7);
         faulty("take 5 when 1=1 ore 1=1;", 1, 16);
         faulty("take 5 when 1=1 andnot 1=1;", 1, 16);
@@ -506,6 +524,12 @@ public final class EdgesOfWaysTest {
         fine(sum + "; ", 1);
         faulty(sum + "+1", 1, 400);
         faulty(sum + ";;", 1, 399);
+        NotYet x = new NotYet();
+        x.come(0, 0, 0);
+        for (int i = 0; i < 15; i++) {
+            check.due("long ones, again and again", Check.way(x, 0, sum + ";"), 1);
+            check.due("take", x.one(0, 3), 197);
+        }
         taken("take 9" + "/1".repeat(196) + ";", 9);
         taken("take 1" + "*1".repeat(196) + ";", 1);
         taken("take 8 when " + "1=1 and ".repeat(47) + "1=1;", 8);
@@ -557,6 +581,10 @@ public final class EdgesOfWaysTest {
         faulty("take 1 when 5 <> 5;", 1, 15);
         faulty("take 1 when 5 == 5;", 1, 15);
         faulty("take 1 when < 5;", 1, 12);
+        faulty("take 1 when 5 5;", 1, 14);
+        faulty("take 1 when week sort;", 1, 17);
+        faulty("take 1 when 5;", 1, 13);
+        faulty("take 1 when 5 and 5=5;", 1, 14);
         faulty("take 1 when ();", 1, 13);
         faulty("take 1 when (1=1;", 1, 16);
         faulty("take 1 when 1=1);", 1, 15);
@@ -648,5 +676,67 @@ public final class EdgesOfWaysTest {
         check.due("waited", x.one(2, 4), x.one(2, 1));
         x.look(1, 5, 0, 0);
         check.due("best of none", x.one(0, 3), 0);
+        x.look(1, 0, 7, 0);
+        check.due("best is the first", x.one(0, 3), 7);
+    }
+
+    /** WAIT is asked in a WEEK itself, not only by one who looks on. */
+    private static void waitAsOneMeets() {
+        check.by("3: wait: one's WAIT behind week (WEEKS and 1)");
+        NotYet x = new NotYet();
+        x.set(0, 0);
+        x.set(2, 2);
+        x.sorts(1, 2);
+        x.look(1, 0, 800, 500);
+        x.look(1, 1, 399, 0);
+        Check.way(x, 0, "take wait;");
+        x.come(0, 0, 0);
+        x.come(1, 1, 1);
+        check.due("399 is less than WAIT", x.weeks(1), 0);
+        x.set(2, 1);
+        check.due("behind T all is taken", x.weeks(1), 1);
+        NotYet y = new NotYet();
+        y.set(0, 0);
+        y.set(2, 2);
+        y.sorts(1, 2);
+        y.look(1, 0, 800, 500);
+        y.look(1, 1, 400, 0);
+        Check.way(y, 0, "take wait;");
+        y.come(0, 0, 0);
+        y.come(1, 1, 1);
+        check.due("400 is as much as WAIT", y.weeks(1), 1);
+    }
+
+    private static void joined() {
+        check.by("3: B = A {or A}. A = C {and C}. C = not C | ( B ). E = T {(+ | -) T}. T = U {* U | / NUMBER}");
+        String[] claims = {"1=2", "1=1"};
+        for (int bits = 0; bits < 8; bits++) {
+            boolean p = (bits & 1) != 0;
+            boolean q = (bits & 2) != 0;
+            boolean r = (bits & 4) != 0;
+            String a = claims[bits & 1];
+            String b = claims[bits >> 1 & 1];
+            String c = claims[bits >> 2 & 1];
+            so(a + " or " + b + " and " + c, p || q && r);
+            so(a + " and " + b + " or " + c, p && q || r);
+            so("(" + a + " or " + b + ") and " + c, (p || q) && r);
+            so(a + " and (" + b + " or " + c + ")", p && (q || r));
+            so("not " + a + " and " + b + " or " + c, !p && q || r);
+            so("not (" + a + " and " + b + ") or " + c, !(p && q) || r);
+            so("not not " + a + " or not " + b + " and not " + c, p || !q && !r);
+            so(a + " or " + b + " or " + c, p || q || r);
+            so(a + " and " + b + " and " + c, p && q && r);
+        }
+        taken("take 9 - 4 - 3;", 2);
+        taken("take 9 - 4 + 3;", 8);
+        taken("take 9 + 4 * 3 - 2;", 19);
+        taken("take 9 / 2 * 2;", 8);
+        taken("take 9 * 2 / 4;", 4);
+        taken("take 90 / 4 / 4;", 5);
+        taken("take 1 - 9 / 2 * 2 - 1;", -8);
+    }
+
+    private static void so(String claim, boolean holds) {
+        taken("take 1 when " + claim + "; take 2;", holds ? 1 : 2);
     }
 }
