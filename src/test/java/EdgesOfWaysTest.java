@@ -727,6 +727,12 @@ public final class EdgesOfWaysTest {
             so(a + " or " + b + " or " + c, p || q || r);
             so(a + " and " + b + " and " + c, p && q && r);
         }
+        so("not 1 < 2", false);
+        so("not 2 > 1", false);
+        so("not 2 < 1", true);
+        so("not 1 > 2", true);
+        so("1 < 2 and 1 = 1", true);
+        so("2 > 1 and 1 = 1", true);
         taken("take 9 - 4 - 3;", 2);
         taken("take 9 - 4 + 3;", 8);
         taken("take 9 + 4 * 3 - 2;", 19);
