@@ -17,6 +17,7 @@ public final class EdgesOfFeastTest {
         holdsIfNobodyLikesMore();
         likesNoLessIsNotMore();
         mensAndWomens();
+        worstOff();
         allInOrder();
         fullOfPairings();
         pairingNumbers();
@@ -284,6 +285,37 @@ public final class EdgesOfFeastTest {
             }
         }
         return x;
+    }
+
+    /** One alone holds, in which a SIDE has its last ones or those ahead of them, behind a FEAST where the last one was best. */
+    private static void worstOff() {
+        check.by("4: THE MEN'S, THE WOMEN'S: the one he likes most of all that he has in any that holds");
+        int[][] worse = {{0, 1, 2, 3, 4, 5, 6}, {1, 2, 3, 4, 5, 0, 6}, {2, 3, 4, 5, 0, 1, 6}, {3, 4, 5, 0, 1, 2, 6},
+            {4, 5, 0, 1, 2, 3, 6}, {5, 0, 1, 2, 3, 4, 6}, {0, 1, 2, 3, 4, 5, 6}};
+        int[][] better = {{1, 0, 3, 4, 5, 2, 6}, {2, 0, 3, 5, 4, 6, 1}, {3, 1, 5, 2, 6, 0, 4}, {4, 1, 3, 0, 5, 2, 6},
+            {5, 0, 1, 6, 2, 3, 4}, {6, 0, 5, 1, 4, 2, 3}, {0, 2, 6, 5, 3, 1, 4}};
+        for (int side = 0; side < 2; side++) {
+            NotYet x = ring(7);
+            for (int k = 0; k < 7; k++) {
+                for (int j = 0; j < 7; j++) {
+                    x.likes(side, k, (k + j) % 7, side == 0 ? j : 99 - j);
+                    x.likes(1 - side, (k + j) % 7, k, side == 0 ? 99 - j : j);
+                }
+            }
+            check.due("seven hold", x.holds(), 7);
+            for (int k = 0; k < 7; k++) {
+                for (int rank = 0; rank < 7; rank++) {
+                    x.likes(side, k, worse[k][rank], 90 - rank);
+                    x.likes(1 - side, k, better[k][rank], 90 - rank);
+                }
+            }
+            check.due("one holds", x.holds(), 1);
+            for (int k = 0; k < 7; k++) {
+                int due = side == 0 ? (k + 6) % 7 : (k + 1) % 7;
+                check.due("THE MEN'S, MAN " + k, x.pairing(0, k), due);
+                check.due("THE WOMEN'S, MAN " + k, x.pairing(1, k), due);
+            }
+        }
     }
 
     private static void allInOrder() {
